@@ -57,6 +57,9 @@ public final class EffectsTest {
     }
 
     private static void clashes(Check c) {
+        ShadowBand y = new ShadowBand();
+        y.effect(7, 9, 3);
+        c.due("27 one effect alone", y.clash(), 7);
         ShadowBand x = new ShadowBand();
         x.effect(50, 60, 2);
         x.effect(40, 50, 2);
@@ -77,6 +80,7 @@ public final class EffectsTest {
         ShadowBand x = new ShadowBand();
         c.due("28 none", x.left(), 0);
         x.effect(0, 10, 1);
+        c.due("28 none of one", x.left(), 0);
         x.effect(5, 15, 2);
         c.due("28 of two the first", x.left(), 1);
         x.effect(12, 20, 1);
@@ -100,6 +104,10 @@ public final class EffectsTest {
         for (int i = 4; i < 12; i++) {
             z.effect(100 * i, 100 * i + 1, 4);
         }
+        ShadowBand w = new ShadowBand();
+        w.effect(0, 10, 3);
+        w.effect(20, 30, 1);
+        c.due("28 one effect that is too much alone", w.left(), 1);
         c.due("28 twelve", z.left(), 4095 - 4 - 8);
         z.effect(99, 100, 1);
         c.due("28 thirteen", z.left(), BIG);

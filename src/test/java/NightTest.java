@@ -8,6 +8,7 @@ public final class NightTest {
         beforeAny(c);
         oneStretch(c);
         vampAndLate(c);
+        vampAheadOfTheLast(c);
         earlyExit(c);
         held(c);
         brokenReel(c);
@@ -109,6 +110,19 @@ public final class NightTest {
         c.due("22 three times", x.played(0), 3);
         c.due("23 three fees", x.fees(), 21);
         c.due("29 three", x.count(5), 3);
+    }
+
+    private static void vampAheadOfTheLast(Check c) {
+        ShadowBand x = three();
+        x.begin();
+        x.seen();
+        x.go(50);
+        c.due("21 the stretch ahead of the last", x.now(0), 1);
+        c.due("18 does not end unseen", x.go(600), 650);
+        nows(c, "vamps", x, 1, 1, 0, 28, 50, 650, 0, 1, 60);
+        x.seen();
+        c.due("18 the end", x.go(600), 710);
+        nows(c, "at the end", x, 2, 1, 0, 28, 60, 710, 1, 2, 5);
     }
 
     /** A cue that was seen is taken behind the first block that is an exit, not the way's last. */

@@ -169,5 +169,9 @@ public final class PiecesTest {
         x.piece(1, 60120, 0, 0);
         x.block(1, 3, 3, 1);
         c.due("12 of several without misfit the least", x.best(1, 90), 9);
+        x.piece(1, 60060, 0, 0);
+        x.block(2, 50, 3, 1);
+        c.due("12 400 beats, too", x.best(2, 4000), 400);
+        c.due("12 no more than 400", x.best(2, 100000), 400);
     }
 }

@@ -11,6 +11,7 @@ public final class ProgrammeTest {
         refusals(c);
         noPieceTwice(c);
         joins(c);
+        themesAndOthers(c);
         firstOfSeveral(c);
         staysWhereRefused(c);
         eightAndTwelve(c);
@@ -146,6 +147,39 @@ public final class ProgrammeTest {
         x.rule(1, 0);
         c.due("15 both too far", x.programme(12), NOT);
         c.due("16 stays", x.given(1, 0), 2);
+        ShadowBand y = new ShadowBand();
+        y.shot(120, 1);
+        y.shot(120, 0);
+        y.cue(1, 1);
+        y.piece(1, 60060, 0, 0);
+        y.block(0, 10, 3, 0);
+        y.piece(102, 60060, 0, 0);
+        y.block(1, 10, 3, 0);
+        c.due("15 down to the first piece", y.programme(12), 5);
+        c.due("16 down to the first piece", y.given(0, 3), 5);
+    }
+
+    /** The same set of used pieces may be met in several stretches where there are themes. */
+    private static void themesAndOthers(Check c) {
+        ShadowBand x = new ShadowBand();
+        int[] frames = {120, 240, 120, 240};
+        for (int s = 0; s < 4; s++) {
+            x.shot(frames[s], 0);
+            x.cue(s, 1);
+        }
+        x.piece(1, 60060, 1, 0);
+        x.block(0, 15, 3, 0);
+        x.piece(701, 60060, 0, 0);
+        x.block(1, 20, 3, 0);
+        // The theme misses each stretch by 50; piece 1 fits one of the long ones, joins cost 1.
+        c.due("15 one other among themes", x.programme(12), 151);
+        int[] due = {0, 0, 0, 1};
+        for (int s = 0; s < 4; s++) {
+            c.due("16 one other among themes " + s, x.given(s, 0), due[s]);
+        }
+        x.rule(0, 60);
+        c.due("15 a dear join", x.programme(12), 200);
+        c.due("16 the theme alone", x.given(3, 0), 0);
     }
 
     private static void firstOfSeveral(Check c) {
