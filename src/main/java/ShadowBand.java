@@ -215,7 +215,7 @@ public final class ShadowBand {
             return NOT;
         }
         planner.prepare(film, pieces, speed);
-        int cost = planner.leastFrom(0, 0, -1);
+        int cost = planner.leastCost();
         if (cost == NO_COST) {
             return NOT;
         }
@@ -745,8 +745,13 @@ public final class ShadowBand {
             search = (search + 1) & SEARCHES;
         }
 
+        /** Of all stretches; NO_COST if there is no programme. */
+        int leastCost() {
+            return leastFrom(0, 0, -1);
+        }
+
         /** The least cost of the stretches from s on, behind the piece last (-1: none). */
-        int leastFrom(int s, int used, int last) {
+        private int leastFrom(int s, int used, int last) {
             if (s >= stretchCount) {
                 return 0;
             }

@@ -32,6 +32,7 @@ public final class FaceTest {
         for (Class<?> inside : ShadowBand.class.getDeclaredClasses()) {
             insideClass(c, inside);
         }
+        c.hold("some twelve classes at most", ShadowBand.class.getDeclaredClasses().length <= 12);
         source(c);
         c.end();
     }
@@ -94,10 +95,20 @@ public final class FaceTest {
         c.hold("some twenty fields at most: " + name, fields <= 20);
         for (Method m : inside.getDeclaredMethods()) {
             c.hold("seven parameters at most: " + m, m.getParameterCount() <= 7);
+            c.hold("bears no name of the face: " + m, !isOfTheFace(m.getName()));
         }
         for (Constructor<?> m : inside.getDeclaredConstructors()) {
             c.hold("seven parameters at most: " + m, m.getParameterCount() <= 7);
         }
+    }
+
+    private static boolean isOfTheFace(String name) {
+        for (String sign : FACE) {
+            if (sign.startsWith(name + " ")) {
+                return true;
+            }
+        }
+        return false;
     }
 
     private static void source(Check c) throws Exception {

@@ -3,8 +3,11 @@
  * so they are the same each time.
  */
 public final class ModelTest {
-    private static final int RUNS = 400;
-    private static final int CALLS = 500;
+    private static final int RUNS = 1000;
+    /** No more is promised of one object. */
+    private static final int CALLS = 512;
+    /** As many of them as one turn of a run may make. */
+    private static final int CALLS_OF_A_TURN = 5;
     private static final int[] EDGES = {-1, 0, 1, 2, 12, 13, 100, 400, 401, 600, 601, 100000,
         Integer.MAX_VALUE, Integer.MIN_VALUE};
 
@@ -13,6 +16,7 @@ public final class ModelTest {
     private ShadowBand x;
     private SlowBand y;
     private int run;
+    private int calls;
     /** How many stretches, pieces the run aims at: few of both keep the trial of all short. */
     private int fewStretches;
     private int fewPieces;
@@ -52,23 +56,25 @@ public final class ModelTest {
         y = new SlowBand();
         fewStretches = 1 + any(9);
         fewPieces = fewStretches > 6 ? 1 + any(5) : 1 + any(7);
-        for (int i = 0; i < CALLS && c.isClean(); i++) {
+        calls = 0;
+        for (int i = 0; calls + CALLS_OF_A_TURN <= CALLS && c.isClean(); i++) {
             call(i < 60 ? buildingCall() : anyCall());
         }
     }
 
     private int buildingCall() {
-        int[] often = {0, 0, 0, 1, 6, 6, 7, 7, 7, 7, 7, 13};
+        int[] often = {0, 0, 0, 1, 6, 6, 7, 7, 7, 7, 7, 13, 21};
         return often[any(often.length)];
     }
 
     private int anyCall() {
         int[] often = {12, 14, 14, 15, 15, 16, 17, 17, 17, 17, 17, 17, 18, 18, 18, 18, 20, 20, 20,
-            20, 20, 20};
+            20, 20, 24};
         return any(3) == 0 ? any(27) : often[any(often.length)];
     }
 
     private void due(int call, String name, int got, int want, int... args) {
+        calls++;
         if (got >= 0) {
             answers[call]++;
         }
@@ -143,7 +149,9 @@ public final class ModelTest {
         } else if (which == 8) {
             due(8, "way", x.way(p, b), y.way(p, b), p, b);
         } else if (which == 9) {
-            for (int i = -1; i < 17; i++) {
+            int length = Math.max(0, y.way(p, b));
+            for (int n = 0; n < 4; n++) {
+                int i = pick(-1, length);
                 due(9, "along", x.along(p, b, i), y.along(p, b, i), p, b, i);
             }
         } else if (which == 10) {
@@ -168,10 +176,9 @@ public final class ModelTest {
             a = pick(12, 30);
             due(14, "programme", x.programme(a), y.programme(a), a);
         } else {
-            for (int s = 0; s < 8; s++) {
-                for (int what = 0; what < 4; what++) {
-                    due(15, "given", x.given(s, what), y.given(s, what), s, what);
-                }
+            for (int n = 0; n < 4; n++) {
+                int s = pick(0, fewStretches);
+                due(15, "given", x.given(s, n), y.given(s, n), s, n);
             }
             due(15, "given", x.given(a, b), y.given(a, b), a, b);
         }
@@ -191,7 +198,8 @@ public final class ModelTest {
             int is = pick(0, 1);
             due(19, "reel", x.reel(is), y.reel(is), is);
         } else {
-            for (int what = 0; what < 9; what++) {
+            for (int n = 0; n < 3; n++) {
+                int what = 3 * n + any(3);
                 due(20, "now", x.now(what), y.now(what), what);
             }
             int p = pick(0, fewPieces);

@@ -89,7 +89,7 @@ public final class RoomTest {
         for (int themes = 0; themes <= 12; themes++) {
             long before = threads.getThreadAllocatedBytes(id);
             ShadowBand x = full(themes, 8);
-            for (int i = 0; i < 200; i++) {
+            for (int i = 0; i < 190; i++) {
                 x.programme(12 + i % 19);
                 x.begin();
             }
