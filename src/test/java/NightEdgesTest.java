@@ -359,12 +359,12 @@ public final class NightEdgesTest {
         }
         c.due("bad is named ahead of not", x.go(601), BAD);
         c.due("the reel is whole", x.reel(1), 0);
-        c.due("and broken", x.reel(0), 1);
+        c.due("and broken", x.reel(1), 1);
         c.due("played once", x.played(0), 1);
         c.due("another night", x.begin(), 1);
         nows(c, "at first again", x, 0, 0, 0, 0, 0, 0, 0, 0, 0);
         c.due("it goes", x.go(1), 1);
-        c.due("its reel is whole", x.reel(0), 0);
+        c.due("its reel is whole, though the other one broke", x.reel(0), 0);
     }
 
     /** "The reel is BROKEN (1), MENDED (0): what it was. BAD; NOT: no NIGHT." */

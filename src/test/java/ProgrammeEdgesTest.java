@@ -133,6 +133,12 @@ public final class ProgrammeEdgesTest {
             x.block(1, 10, 3, 0);
             c.due("mood " + mood, x.programme(12), 0);
             c.due("by the piece of mood " + mood, x.given(0, 0), 1);
+            x.shot(12, (mood + 1) % 6);
+            c.due("the first shot's mood tells " + mood, x.programme(12), 10);
+            c.due("by the same piece " + mood, x.given(0, 0), 1);
+            x.cue(1, 1);
+            c.due("the second shot's mood as a cue " + mood, x.programme(12), 90);
+            c.due("by the other piece " + mood, x.given(1, 0), 0);
         }
     }
 
